@@ -723,10 +723,11 @@ public final class PlateRoom {
             return found;
         }
 
+        /** NONE is ahead of all, so where it costs as little it is no other, but the source itself. */
         private int rivalCount(int map) {
             int source = cheapest(map);
             int least = costOf(map, source);
-            int others = source != NONE && costOf(map, NONE) == least ? 1 : 0;
+            int others = 0;
             for (int m = 0; m < mapCount; m++) {
                 if (m != source && mayComeFrom(map, m) && costOf(map, m) == least) {
                     others++;

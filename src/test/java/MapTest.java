@@ -12,6 +12,7 @@ public final class MapTest {
         promise18Rivals();
         promise19Life();
         promise19OnTheWay();
+        promise19LongestWay();
         DUE.end();
     }
 
@@ -155,5 +156,15 @@ public final class MapTest {
         DUE.is("life(3, 0)", x.life(3, 0), 1);
         DUE.is("life(0, 1)", x.life(0, 1), 5);
         DUE.is("life(1, 1)", x.life(1, 1), 3);
+    }
+
+    private static void promise19LongestWay() {
+        PlateRoom x = new PlateRoom();
+        for (int i = 7; i >= 0; i--) {
+            x.map(1600 + i, (2 << i) - 1);
+        }
+        DUE.is("from(0)", x.from(0), 1);
+        DUE.is("life(7, 0) of eight, each from the next", x.life(7, 0), 8);
+        DUE.is("life(4, 3)", x.life(4, 3), 5);
     }
 }
