@@ -816,17 +816,16 @@ public final class PlateRoom {
             return fitting(book, bestShift(book));
         }
 
-        /** From 0 outwards, the lesser one of two first: only one that fits more takes its place. */
+        /** Looked at upwards: of two that are as near to 0, the lesser one comes first and stays. */
         private int bestShift(Holes book) {
-            int found = 0;
-            int most = fitting(book, 0);
-            for (int far = 1; far <= FARTHEST; far++) {
-                for (int k = -far; k <= far; k += 2 * far) {
-                    int howMany = fitting(book, k);
-                    if (howMany > most) {
-                        most = howMany;
-                        found = k;
-                    }
+            int found = -FARTHEST;
+            int most = fitting(book, found);
+            for (int k = -FARTHEST + 1; k <= FARTHEST; k++) {
+                int howMany = fitting(book, k);
+                boolean asManyButNearer = howMany == most && Math.abs(k) < Math.abs(found);
+                if (howMany > most || asManyButNearer) {
+                    most = howMany;
+                    found = k;
                 }
             }
             return found;
